@@ -1897,7 +1897,7 @@ public final class ThingPost {
 
     /** PROGRAMS by RINGS of THINGS, each RING watched against all THINGS that reported. */
     private static final class Programs {
-        static final int LEAST_ODDS = 20;
+        static final int FIRST_ODDS = 20;
 
         final int[] ringOf = new int[THINGS];
         final int[] programOf = new int[THINGS];
@@ -1917,7 +1917,7 @@ public final class ThingPost {
             }
             for (int i = 0; i < RINGS; i++) {
                 oddsOf[i] = 1;
-                oddsIn[i] = LEAST_ODDS;
+                oddsIn[i] = FIRST_ODDS;
             }
             int step = THINGS + 1;
             for (int of = 0; of <= THINGS; of++) {
