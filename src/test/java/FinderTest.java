@@ -280,10 +280,32 @@ public final class FinderTest {
         manyStarts();
     }
 
+    private static void lastStart() {
+        ThingPost x = ready();
+        tell(x, "when t0.f2=9 and t5.f2=9 : wish t4.f2=1", "when t0.f2=9 and t5.f2=9 : wish t4.f2=2");
+        check.due("from the last start alone", x.ring(), 2);
+        shown(x, 0, 0, 2, 9);
+        shown(x, 1, 5, 2, 9);
+        check.due("a pull at the last start alone", x.pulls(0, 1), 1);
+        shown(x, 1, 5, 2, 9);
+    }
+
     private static void manyStarts() {
         ThingPost y = ready();
         tell(y, "when t0.f0=5 or t0.f1=5 or t0.f2=5 or t1.f0=1 or t1.f1=1 : wish t5.f0=1");
         check.due("5 * 5 * 5 * 4 * 4 = 2000 starts", y.ring(), 0);
+        ThingPost z = new ThingPost();
+        for (int field = 0; field < 3; field++) {
+            z.field(0, field, 0, field == 2 ? 2 : 100, 0);
+        }
+        z.thing(0, 0);
+        z.thing(1, 0);
+        tell(z, "when t0.f0=9or t0.f0=19or t0.f0=29or t0.f0=39or t0.f0=49or t0.f0=59or t0.f0=69or t0.f2=1 : wish t1.f0=1",
+            "when t0.f1=9or t0.f1=19or t0.f1=29or t0.f1=39or t0.f1=49or t0.f1=59or t0.f1=69or t0.f1=79or t0.f1=89 : wish t1.f0=1");
+        check.due("23 * 29 * 3 = 2001 starts", z.ring(), -2);
+        z.field(0, 2, 0, 1, 0);
+        check.due("23 * 29 * 2 = 1334 starts", z.ring(), 0);
+        lastStart();
         ThingPost x = ready();
         tell(x, "when t0.f0=5 or t0.f1=5 or t0.f2=5 or t1.f0=5 : wish t5.f0=1",
             "when t1.f1=1 : wish t5.f0=1");

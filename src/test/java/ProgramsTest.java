@@ -9,6 +9,7 @@ public final class ProgramsTest {
         worseByOdds();
         worseThanTheRest();
         worseOfForty();
+        worseAtFirst();
         stopping();
         goingBack();
         check.end();
@@ -151,18 +152,39 @@ public final class ProgramsTest {
     private static void worseOfForty() {
         ThingPost x = with(40);
         for (int i = 0; i < 40; i++) {
-            x.join(i, i % 2);
+            check.due("join " + i, x.join(i, i % 2), true);
         }
         x.begin(0, 1);
         x.begin(1, 1);
         for (int i = 0; i < 40; i++) {
-            x.report(i, i % 2 == 0);
+            check.due("report " + i, x.report(i, i % 2 == 0), true);
         }
         x.odds(1, 1, 1000);
         check.due("one way of 137846528820", x.worse(1), 1);
         check.due("the other ring", x.worse(0), 0);
         x.odds(1, 0, 1000);
         check.due("never", x.worse(1), 0);
+    }
+
+    /** The odds of each ring are 1 in 20 at first: 1 way of 21 is fewer, 1 of 20 is not. */
+    private static void worseAtFirst() {
+        for (int bad = 0; bad < 8; bad++) {
+            ThingPost x = with(21);
+            int good = bad == 0 ? 1 : 0;
+            x.join(0, bad);
+            for (int i = 1; i < 21; i++) {
+                x.join(i, good);
+            }
+            x.begin(Math.min(bad, good), 1);
+            x.begin(Math.max(bad, good), 1);
+            x.report(0, false);
+            for (int i = 1; i < 20; i++) {
+                x.report(i, true);
+            }
+            check.due("1 of 20 ways, ring " + bad, x.worse(bad), 0);
+            x.report(20, true);
+            check.due("1 of 21 ways, ring " + bad, x.worse(bad), 1);
+        }
     }
 
     private static void stopping() {

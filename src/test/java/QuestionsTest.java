@@ -181,5 +181,13 @@ public final class QuestionsTest {
         check.due("thirteen", x.ask(0), -2);
         check.due("asked stays", x.asked(), 0xF0000000FFL);
         check.due("no tick comes first", x.ask(-1), -1);
+        ThingPost y = new ThingPost();
+        for (int i = 0; i < 40; i++) {
+            y.thing(0, 0);
+        }
+        y.question(0, 0xFFFL << 28, 0);
+        check.due("the twelve last", y.ask(0), 0);
+        y.question(0, 1L << 27, 0);
+        check.due("thirteen of the last", y.ask(0), -2);
     }
 }

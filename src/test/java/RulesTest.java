@@ -256,6 +256,15 @@ public final class RulesTest {
         test("age t0=0", 1);
         test("max t0.f1 1=2", 1);
         test("min t0.f2 60<9", 0);
+        test("not min t0.f2 60<9", 1);
+        ThingPost x = two();
+        x.word(0, 1, 0, NO, NO, 4);
+        Check.rule(x, 0, "when max t0.f2 1=4 and min t0.f2 60=4: wish t1.f2=6");
+        check.due("max and min of field 2", x.tick(), 0);
+        check.due("max and min of field 2, held at 0", x.held(0, 0, 0), 1);
+        Check.rule(x, 0, "when min t0.f2 60=4: wish t1.f2=6");
+        check.due("min of field 2", x.tick(), 1);
+        check.due("wish of field 2", x.wished(1, 2, 0), 6);
     }
 
     private static void heldFrom(ThingPost x, int rule, int known, int first, int last) {

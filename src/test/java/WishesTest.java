@@ -92,6 +92,22 @@ public final class WishesTest {
         check.due("the latest of equals", x.wished(0, 0, 1), 0);
         x.field(0, 0, 50, 60, 0);
         check.due("stays as least and most change", x.wished(0, 0, 0), 1);
+        lastOfAll();
+    }
+
+    private static void lastOfAll() {
+        ThingPost x = new ThingPost();
+        for (int i = 0; i < 40; i++) {
+            x.thing(7, 7);
+        }
+        x.field(7, 2, 0, 9, 0);
+        check.due("owner 7, thing 39, field 2", x.wish(7, 39, 2, 9), true);
+        check.due("wished", x.wished(39, 2, 0), 9);
+        check.due("wished by", x.wished(39, 2, 1), 7);
+        check.due("rank of 7 with 7", x.rank(7, 7, 0), 1);
+        check.due("rank of 0 with 7", x.rank(0, 7, 9), 0);
+        check.due("wish of owner 0", x.wish(0, 39, 2, 8), true);
+        check.due("wished by owner 0", x.wished(39, 2, 1), 0);
     }
 
     private static void apart() {

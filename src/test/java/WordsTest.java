@@ -190,6 +190,13 @@ public final class WordsTest {
         x.kind(0, 0, 0);
         x.word(0, 10, 33, NO, NO, NO);
         span(x, 9, 33, 33);
+        Check.ticks(x, 3939);
+        x.kind(0, 499, 0);
+        x.thing(0, 0);
+        x.word(1, 1, 3000, NO, NO, NO);
+        span(x, 10, 1503, 3999);
+        x.word(1, 2, 2001, NO, NO, NO);
+        span(x, 11, 1002, 3000);
     }
 
     private static void wordsKnowNoFuture() {
@@ -265,21 +272,23 @@ public final class WordsTest {
         check.due("give up 6", x.giveUp(0, 6), false);
         check.due("give up 0", x.giveUp(0, 0), false);
         check.due("give up of no thing", x.giveUp(2, 1), false);
+        check.due("give up 1", x.giveUp(0, 1), true);
+        x.word(0, 1, 0, 1, 1, 1);
         check.due("give up 2", x.giveUp(0, 2), true);
         check.due("give up 2 again", x.giveUp(0, 2), false);
-        check.due("three missed", x.missed(0, -1), 3);
-        check.due("missed(0, 1)", x.missed(0, 1), 3);
-        check.due("it comes yet", x.word(0, 2, 0, 1, 1, 1), 1);
+        check.due("two missed", x.missed(0, -1), 2);
+        check.due("missed(0, 1)", x.missed(0, 1), 4);
+        check.due("it comes yet", x.word(0, 2, 0, 1, 1, 1), 2);
         check.due("it came", x.word(0, 2, 0, 1, 1, 1), -2);
         check.due("give up what came", x.giveUp(0, 2), false);
-        check.due("still three", x.missed(0, -1), 3);
+        check.due("still two", x.missed(0, -1), 2);
         x.forget(0);
-        check.due("a forgotten one came", x.missed(0, -1), 3);
+        check.due("a forgotten one came", x.missed(0, -1), 2);
         check.due("a forgotten one came, all the same", x.word(0, 5, 0, 1, 1, 1), -2);
         check.due("greatest count of forgotten ones", x.things(0, 4), 5);
         x.word(0, 200, 0, 1, 1, 1);
-        check.due("missed below 200", x.missed(0, -1), 197);
-        check.due("the last missed", x.missed(0, 196), 199);
+        check.due("missed below 200", x.missed(0, -1), 196);
+        check.due("the last missed", x.missed(0, 195), 199);
     }
 
     private static void forgotten() {
