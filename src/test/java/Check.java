@@ -1,14 +1,40 @@
 /** What all tests of the project share: counting wrong answers, and telling rules as texts. */
 final class Check {
     static final int NOTHING = -1000000;
+    private Document document;
+    private String sentence = "";
     private int wrong = 0;
     private int asked = 0;
+    private int sentences = 0;
+    private int askedBefore = 0;
+
+    /** What is asked from here on looks at a sentence that stands under a head of the document. */
+    void of(String head, String words) {
+        endSentence();
+        sentence = head + ", '" + words + "': ";
+        sentences++;
+        askedBefore = asked;
+        if (document == null) {
+            document = new Document();
+        }
+        if (!document.has(head, words)) {
+            wrong++;
+            System.out.println(sentence + "does not stand there");
+        }
+    }
+
+    private void endSentence() {
+        if (sentences > 0 && asked == askedBefore) {
+            wrong++;
+            System.out.println(sentence + "nothing was asked");
+        }
+    }
 
     void due(String call, long got, long want) {
         asked++;
         if (got != want) {
             wrong++;
-            System.out.println(call + " answered " + got + ", due is " + want);
+            System.out.println(sentence + call + " answered " + got + ", due is " + want);
         }
     }
 
@@ -16,11 +42,37 @@ final class Check {
         due(call, got ? 1 : 0, want ? 1 : 0);
     }
 
+    /** Ends a test that looks at all promises by their sentences. */
+    void endOfSentences(boolean tellRest) {
+        endSentence();
+        if (document == null) {
+            document = new Document();
+        }
+        for (String head : document.unquotedHeads()) {
+            wrong++;
+            System.out.println(head + " has no test by its sentences");
+        }
+        if (tellRest) {
+            document.tellUnquoted();
+        }
+        System.out.println(sentences + " sentences");
+        end();
+    }
+
     void end() {
         System.out.println(asked + " answers looked at, " + wrong + " wrong");
         if (wrong != 0) {
             System.exit(1);
         }
+    }
+
+    /** An object with some THINGS, all of KIND 0 and OWNER 0. */
+    static ThingPost withThings(int n) {
+        ThingPost x = new ThingPost();
+        for (int i = 0; i < n; i++) {
+            x.thing(0, 0);
+        }
+        return x;
     }
 
     /** Puts a text on the (empty) tape. */
