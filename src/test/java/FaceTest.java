@@ -1,3 +1,6 @@
+import java.io.DataInputStream;
+import java.io.IOException;
+import java.io.InputStream;
 import java.lang.reflect.Constructor;
 import java.lang.reflect.Field;
 import java.lang.reflect.Method;
@@ -7,7 +10,7 @@ import java.nio.file.Path;
 import java.util.Set;
 import java.util.TreeSet;
 
-/** The face is the document's and no more, and the source keeps to those rules of LANGUAGE.md that a test can see. */
+/** The face is the document's and no more, and the class keeps to those rules of LANGUAGE.md that a test can see. */
 public final class FaceTest {
     private static final String[] FACE = {
         "boolean field(int,int,int,int,int)", "boolean kind(int,int,int)", "int thing(int,int)", "int tick()",
@@ -36,6 +39,10 @@ public final class FaceTest {
             insides(inside, names);
         }
         source();
+        library(ThingPost.class);
+        for (Class<?> inside : ThingPost.class.getDeclaredClasses()) {
+            library(inside);
+        }
         check.end();
     }
 
@@ -77,6 +84,41 @@ public final class FaceTest {
             boolean own2 = Modifier.isPrivate(method.getModifiers());
             check.due("name of its own: " + method, own2 && names.contains(method.getName()), false);
             check.due("parameters: " + method, method.getParameterCount() <= 7, true);
+        }
+    }
+
+    // Of what rule 4 allows, these alone are used; a new one is put here once it is looked up there.
+    private static final Set<String> LIBRARY = Set.of("java/lang/Object.<init>", "java/lang/Math.min", "java/lang/Math.max",
+        "java/lang/String.length", "java/lang/String.charAt", "java/lang/System.arraycopy");
+
+    /** Rules 2 and 4 by the constants of a compiled class: what it calls outside of itself, and no lambda. */
+    private static void library(Class<?> type) throws IOException {
+        String file = type.getName() + ".class";
+        try (InputStream bytes = type.getResourceAsStream(file); DataInputStream in = new DataInputStream(bytes)) {
+            in.readInt();
+            in.readInt();
+            int size = in.readUnsignedShort();
+            int[] tags = new int[size];
+            int[][] parts = new int[size][2];
+            String[] texts = new String[size];
+            for (int i = 1; i < size; i++) {
+                tags[i] = in.readUnsignedByte();
+                switch (tags[i]) {
+                    case 1: texts[i] = in.readUTF(); break;
+                    case 3: case 4: in.readInt(); break;
+                    case 5: case 6: in.readLong(); i++; break;
+                    case 7: case 8: case 16: case 19: case 20: parts[i][0] = in.readUnsignedShort(); break;
+                    case 15: in.readUnsignedByte(); in.readUnsignedShort(); break;
+                    default: parts[i] = new int[] {in.readUnsignedShort(), in.readUnsignedShort()}; break;
+                }
+            }
+            for (int i = 1; i < size; i++) {
+                check.due("a lambda or a joined text in " + file, tags[i] >= 15 && tags[i] <= 18, false);
+                if (tags[i] == 10 || tags[i] == 11) {
+                    String call = texts[parts[parts[i][0]][0]] + "." + texts[parts[parts[i][1]][0]];
+                    check.due(call + " in " + file, call.startsWith("ThingPost") || LIBRARY.contains(call), true);
+                }
+            }
         }
     }
 

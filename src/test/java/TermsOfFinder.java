@@ -203,6 +203,11 @@ final class TermsOfFinder {
         shown(x, 0, 0, 0, 0);
         shown(x, 1, 0, 1, 1);
         shown(x, 2, 1, 0, 1);
+        tell(x, "when t0.f0>0 and t0.f1>-9 and t1.f0>-9 : wish t5.f0=5");
+        check.due("as one changes, all behind it are at their least again", x.pulls(4, 1), 1);
+        shown(x, 0, 0, 0, 1);
+        shown(x, 1, 0, 1, 0);
+        shown(x, 2, 1, 0, 0);
         check.due("the last row", x.pulls(3, 1), 1);
         shown(x, 0, 0, 0, 9);
         shown(x, 1, 0, 1, 9);
@@ -224,6 +229,19 @@ final class TermsOfFinder {
         check.due("a ring of 13 refs", x.ring(), -2);
         x.force(2, false);
         check.due("a ring of 12 refs", x.ring(), 2);
+        ThingPost y = ready();
+        for (int field = 0; field < 3; field++) {
+            y.field(0, field, 0, 0, 0);
+        }
+        y.field(1, 2, 0, 1, 0);
+        y.thing(1, 0);
+        tell(y, "when t0.f0=0and t0.f1=0and t0.f2=0and t1.f0=0and t1.f1=0and t1.f2=0:wish t5.f0=1",
+            "when t2.f0=0and t2.f1=0and t2.f2=0and t3.f0=0and t3.f1=0and t6.f2=1:wish t5.f0=2");
+        check.due("12 refs, at the last row alone", y.pulls(0, 1), 1);
+        shown(y, 10, 3, 1, 0);
+        shown(y, 11, 6, 2, 1);
+        check.due("a ring of 12 refs, at the last row alone", y.ring(), 2);
+        shown(y, 11, 6, 2, 1);
     }
 
     private void mostRows() {
@@ -336,6 +354,13 @@ final class TermsOfFinder {
         check.due("set to 0, to 1, to 0", y.ring(), 2);
         check.due("first", y.shown(0, 3), 1);
         check.due("second", y.shown(1, 3), 0);
+        for (int cell = 0; cell < 18; cell += 17) {
+            String ref = "t" + cell / 3 + ".f" + cell % 3;
+            ThingPost z = ready();
+            tell(z, "when t3.f1=0 : wish " + ref + "=7", "when t3.f1=0 : wish " + ref + "=8");
+            check.due("of " + ref, z.ring(), 2);
+            check.due("the ref", z.shown(0, 0), 3);
+        }
     }
 
     private void asOnce() {
@@ -366,18 +391,25 @@ final class TermsOfFinder {
 
     private void mostActs() {
         of("More than 200 ACTS from one START without either (a 201st is not done)");
-        String[] more = {"when t0.f0>-9:wish t4.f0=1", "when t0.f0>-9:wish t5.f0=1"};
+        // No REF names these two FIELDS: they have no number at first, so that 0 is set, though it is LEAST and MOST.
+        String[] more = {"when t0.f0>-9:wish t4.f0=0", "when t0.f0>-9:wish t5.f0=0"};
         ThingPost x = LongWay.ready(0, 0);
         LongWay.tell(x);
         tell(x, more);
         check.due("twenty rules", x.count(3), 20);
         check.due("200 acts, none then", x.ring(), 0);
         x = LongWay.ready(0, 1);
+        tell(x, more[0]);
         LongWay.tell(x);
-        tell(x, more);
+        tell(x, more[1]);
         check.due("201 acts", x.ring(), -2);
         x.force(19, false);
-        check.due("200 acts, none then", x.ring(), 0);
+        check.due("200 acts without the last one", x.ring(), 0);
+        x.force(19, true);
+        x.force(0, false);
+        check.due("200 acts without the first one", x.ring(), 0);
+        x.force(0, true);
+        check.due("201 acts again", x.ring(), -2);
     }
 
     private void ringWithTheLastAct() {

@@ -172,6 +172,14 @@ final class TermsOfQuestions {
         x.question(0, 0x2000, 9);
         check.due("thirteen", x.ask(0), -2);
         check.due("as it was asked last", x.asked(), 0xFFFL);
+        ThingPost y = Check.withThings(40);
+        y.field(0, 0, 0, 1, 0);
+        y.kind(0, 0, 1);
+        y.question(0, 0xFFFL << 28, 0);
+        check.due("the last twelve", y.ask(0), 12);
+        check.due("these", y.asked(), 0xFFFL << 28);
+        y.question(0, 1L << 27, 9);
+        check.due("the last thirteen", y.ask(0), -2);
     }
 
     private void leastCosts() {

@@ -406,6 +406,10 @@ final class TermsOfTexts {
         fault("when t0.f0 ^", 0);
         fault("when t0.f0=^", 0);
         fault("when t0.f0=1^", 0);
+        fault("when max^", 0);
+        fault("when min^5", 0);
+        fault("when age^=1", 0);
+        fault("when max^.f0 5=1", 0);
         fault("when t0.f0=1 for^", 0);
         fault("when t0.f0=1 for 5^", 0);
         fault("when t0.f0=1 unless^", 0);

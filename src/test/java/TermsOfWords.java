@@ -209,6 +209,20 @@ final class TermsOfWords {
         check.due("kind of thing 40", x.things(40, 0), -1);
         check.due("kind of thing -1", x.things(-1, 0), -1);
         check.due("things", x.count(1), 40);
+        x.field(0, 2, 0, 9, 0);
+        check.due("the last owner's wish for the last field of the last thing", x.wish(7, 39, 2, 9), true);
+        check.due("it is wished", x.wished(39, 2, 0), 9);
+        check.due("a word of the last thing", x.word(39, 200, 0, NO, NO, 5), 0);
+        check.due("it is said", x.said(39, 2, 0, 0), 5);
+        check.due("the rest of its counts are missed", x.missed(39, -1), 199);
+        check.due("an order to the last thing", x.order(39, 1, 0), 0);
+        check.due("it wakes", x.wake(39), 1);
+        check.due("the last thing in a ring", x.join(39, 7), true);
+        check.due("a rule of the last thing", Check.rule(x, 0, "when t39.f2=5:wish t39.f2=1"), 0);
+        check.due("another one", Check.rule(x, 0, "when t39.f2=5:wish t39.f2=2"), 1);
+        check.due("they pull", x.pulls(0, 1), 1);
+        check.due("at the last thing's number", x.shown(0, 2), 5);
+        check.due("a ring of them", x.ring(), 0);
     }
 
     private void words() {
@@ -448,6 +462,14 @@ final class TermsOfWords {
         x.word(1, 9, 0, 90, NO, NO);
         check.due("not of the latest told", x.said(0, 0, 0, 0), 30);
         check.due("of each thing its own", x.said(1, 0, 0, 0), 90);
+        x.word(0, 9, 0, NO, 91, NO);
+        x.word(0, 7, 0, 70, 71, NO);
+        x.word(0, 6, 0, 60, 61, 62);
+        x.word(0, 8, 0, NO, 81, NO);
+        x.word(0, 5, 0, 50, 51, 52);
+        check.due("of 7, as 8 and 9 have none", x.said(0, 0, 0, 0), 70);
+        check.due("of 9", x.said(0, 1, 0, 0), 91);
+        check.due("of 6", x.said(0, 2, 0, 0), 62);
 
         of("of those that CAME by k");
         x = Check.withThings(1);
