@@ -1,6 +1,8 @@
 import java.io.ByteArrayOutputStream;
 import java.io.IOException;
 import java.io.PrintStream;
+import java.lang.reflect.Method;
+import java.lang.reflect.Modifier;
 import java.net.URL;
 import java.net.URLClassLoader;
 import java.nio.file.Files;
@@ -22,7 +24,8 @@ public final class ReadmeTest {
     public static void main(String[] args) throws Exception {
         String page = Files.readString(Path.of("README.md"));
         example(block(page, "java"), block(page, "text"));
-        tests(page);
+        calls(page);
+        classes(page);
         check.due(".ci/run can be run", Files.isExecutable(Path.of(".ci/run")), true);
         check.end();
     }
@@ -82,30 +85,44 @@ public final class ReadmeTest {
         }
     }
 
-    /** The first column of the tables names each test that there is, and nothing that is not there. */
-    private static void tests(String page) throws IOException {
-        Set<String> told = new TreeSet<>();
-        Matcher row = Pattern.compile("(?m)^\\| ((`\\w+`(, )?)+) \\|").matcher(page);
+    private static Set<String> names(String page, String rows) {
+        Set<String> names = new TreeSet<>();
+        Matcher row = Pattern.compile(rows).matcher(page);
         while (row.find()) {
-            for (String name : row.group(1).replace("`", "").split(", ")) {
-                told.add(name);
-            }
+            names.addAll(List.of(row.group(1).replace("`", "").split(", ")));
         }
-        Set<String> there = new TreeSet<>();
-        try (Stream<Path> files = Files.list(Path.of("src/test/java"))) {
-            files.forEach(file -> there.add(file.getFileName().toString().replace(".java", "")));
-        }
+        return names;
+    }
+
+    private static void same(Set<String> told, Set<String> there) {
         for (String name : there) {
-            if (name.endsWith("Test")) {
-                check.due(name + " stands on the page", told.contains(name), true);
-            }
-        }
-        for (Class<?> inside : ThingPost.class.getDeclaredClasses()) {
-            check.due(inside.getSimpleName() + " stands on the page", told.contains(inside.getSimpleName()), true);
-            there.add(inside.getSimpleName());
+            check.due(name + " stands on the page", told.contains(name), true);
         }
         for (String name : told) {
             check.due(name + " is there", there.contains(name), true);
         }
+    }
+
+    /** The last column of the tables names each call, and nothing that is none. */
+    private static void calls(String page) {
+        Set<String> there = new TreeSet<>(Set.of("new ThingPost()"));
+        for (Method method : ThingPost.class.getDeclaredMethods()) {
+            if (Modifier.isPublic(method.getModifiers())) {
+                there.add(method.getName());
+            }
+        }
+        same(names(page, "(?m)^\\|.*\\| ((`[^`]+`(, )?)+) \\|$"), there);
+    }
+
+    /** The first column of the tables names each class, and nothing that is none. */
+    private static void classes(String page) throws IOException {
+        Set<String> there = new TreeSet<>();
+        for (Class<?> inside : ThingPost.class.getDeclaredClasses()) {
+            there.add(inside.getSimpleName());
+        }
+        try (Stream<Path> files = Files.list(Path.of("src/test/java"))) {
+            files.forEach(file -> there.add(file.getFileName().toString().replace(".java", "")));
+        }
+        same(names(page, "(?m)^\\| ((`\\w+`(, )?)+) \\|"), there);
     }
 }
